@@ -2,7 +2,6 @@ import java.util.ArrayList;
 import java.util.Comparator;
 import java.util.List;
 import java.util.TreeSet;
-import java.util.regex.Pattern;
 
 /** The document once more, in the plainest form that the Java library allows. */
 final class Model {
@@ -66,14 +65,11 @@ final class Model {
     }
 
     int like() {
-        StringBuilder regex = new StringBuilder();
-        for (char c : take().replaceAll("\\*+", "*").toCharArray()) {
-            regex.append(c == '*' ? ".*" : c == '?' ? "." : Pattern.quote(String.valueOf(c)));
-        }
+        String pattern = take();
         result = new ArrayList<>();
         int matching = 0;
         for (String word : words) {
-            if (Pattern.matches(regex.toString(), word)) {
+            if (fits(pattern, word)) {
                 matching++;
                 if (matching <= 50) {
                     result.add(new Found(word, 0));
@@ -129,6 +125,24 @@ final class Model {
             throw new IllegalArgumentException();
         }
         return word;
+    }
+
+    /** fits[i][j]: the pattern from i on stands for the word from j on. */
+    private static boolean fits(String pattern, String word) {
+        boolean[][] fits = new boolean[pattern.length() + 1][word.length() + 1];
+        fits[pattern.length()][word.length()] = true;
+        for (int i = pattern.length() - 1; i >= 0; i--) {
+            char c = pattern.charAt(i);
+            for (int j = word.length(); j >= 0; j--) {
+                boolean more = j < word.length();
+                if (c == '*') {
+                    fits[i][j] = fits[i + 1][j] || more && fits[i][j + 1];
+                } else {
+                    fits[i][j] = more && (c == '?' || c == word.charAt(j)) && fits[i + 1][j + 1];
+                }
+            }
+        }
+        return fits[0][0];
     }
 
     /** least[i][j]: from the first i CHARACTERS of the one to the first j of the other. */
