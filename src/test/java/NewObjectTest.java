@@ -2,26 +2,54 @@
 public final class NewObjectTest {
     public static void main(String[] args) {
         Check check = new Check();
+        noWords(check);
+        found(check);
+        refused(check);
+        apart(check);
+        check.end();
+    }
+
+    private static void noWords(Check check) {
+        check.sentence("No WORDS.");
         NearWords x = new NearWords();
         for (int what = 0; what <= 4; what++) {
-            check.due("count(" + what + ") of a new object", 0, x.count(what));
+            check.due("count(" + what + ")", 0, x.count(what));
         }
-        check.due("before() of a new object", 0, Typist.before(x, "~"));
-        check.due("like() of a new object", 0, Typist.like(x, "*"));
-        check.due("near() of a new object", 0, Typist.near(x, "word", 3));
-        check.due("remove() of a new object", 0, Typist.remove(x, "word"));
-        NearWords fresh = new NearWords();
-        check.bad("letter(0, 0) of a new object", () -> fresh.letter(0, 0));
-        check.bad("distance(0) of a new object", () -> fresh.distance(0));
-        check.bad("add() of a new object", fresh::add);
-        check.bad("remove() of a new object", fresh::remove);
-        check.bad("near(0) of a new object", () -> fresh.near(0));
-        check.due("like() of an empty INPUT", 0, fresh.like());
-        check.due("before() of an empty INPUT", 0, fresh.before());
-        Typist.add(x, "word");
+    }
+
+    private static void found(Check check) {
+        check.sentence("No WORDS: none is found");
+        NearWords x = new NearWords();
+        check.due("like() of an empty INPUT", 0, x.like());
+        check.due("before() of an empty INPUT", 0, x.before());
+        check.due("before()", 0, Typist.before(x, "~".repeat(60)));
+        check.due("like()", 0, Typist.like(x, "*"));
+        for (int n = 0; n <= 3; n++) {
+            check.due("near(" + n + ")", 0, Typist.near(x, "word", n));
+        }
+        check.due("remove()", 0, Typist.remove(x, "word"));
+        check.due("RESULT", 0, x.count(3));
+    }
+
+    private static void refused(Check check) {
+        check.sentence("No WORDS: nothing to take and to look at");
+        check.bad("letter(0, 0)", () -> new NearWords().letter(0, 0));
+        check.bad("distance(0)", () -> new NearWords().distance(0));
+        check.bad("add()", () -> new NearWords().add());
+        check.bad("remove()", () -> new NearWords().remove());
+        check.bad("near(0)", () -> new NearWords().near(0));
+    }
+
+    private static void apart(Check check) {
+        check.sentence("No WORDS: whatever another object has");
+        NearWords x = Typist.with("word");
+        Typist.like(x, "*");
         Typist.type(x, "more");
-        check.due("WORDS of the other object", 0, fresh.count(1));
-        check.due("INPUT of the other object", 0, fresh.count(0));
-        check.end();
+        NearWords later = new NearWords();
+        for (int what = 0; what <= 4; what++) {
+            check.due("count(" + what + ") of a later object", 0, later.count(what));
+        }
+        Typist.add(later, "others");
+        check.due("the first object", "4 1 4 1 4 word/0", Typist.seen(x));
     }
 }

@@ -92,10 +92,8 @@ public final class RandomRunsTest {
     }
 
     private void type(String text) {
-        for (int from = 0; from < text.length(); from += 16) {
-            String part = text.substring(from, Math.min(text.length(), from + 16));
-            int cut = Math.min(8, part.length());
-            typeNumbers(Typist.number(part.substring(0, cut)), Typist.number(part.substring(cut)));
+        for (long[] pair : Typist.numbers(text)) {
+            typeNumbers(pair[0], pair[1]);
         }
     }
 

@@ -1,29 +1,49 @@
 /** Promise 2: type. */
 public final class TypeTest {
     private static final String SIXTY = "abcdefghij".repeat(6);
+    private static final long EIGHT = Typist.number("ABCDEFGH");
 
     public static void main(String[] args) {
         Check check = new Check();
-        order(check);
-        range(check);
-        limit(check);
+        highestFirst(check);
+        zerosLeftOut(check);
+        bad(check);
+        badAmongGood(check);
+        full(check);
+        badBeforeFull(check);
+        length(check);
         check.end();
     }
 
-    private static void order(Check check) {
+    private static void highestFirst(Check check) {
+        check.sentence("INPUT gets the bytes of the two numbers more, highest first");
         NearWords x = new NearWords();
-        check.due("type(0, 0)", 0, x.type(0L, 0L));
-        check.due("three CHARACTERS", 3, x.type(Typist.number("ab"), Typist.number("c")));
-        check.due("zeros between", 5, x.type(0x6400000000000000L, 0x0000000065000000L));
-        check.due("type(0, 0) again", 5, x.type(0L, 0L));
-        check.due("sixteen at once", 21, x.type(Typist.number("ABCDEFGH"), Typist.number("IJKLMNOP")));
+        x.type(Typist.number("abcdefgh"), Typist.number("ijklmnop"));
         x.add();
-        Typist.like(x, "*");
-        check.due("what was typed", "abcdeABCDEFGHIJKLMNOP/0", Typist.result(x));
-        check.due("a new INPUT", 1, x.type(0L, 65L));
+        check.due("sixteen at once", "abcdefghijklmnop", Typist.words(x));
+        x.type(0L, Typist.number("z"));
+        x.type(Typist.number("yx"), 0L);
+        x.type(Typist.number("w"), Typist.number("vu"));
+        x.add();
+        check.due("behind what was there", "abcdefghijklmnop zyxwvu", Typist.words(x));
     }
 
-    private static void range(Check check) {
+    private static void zerosLeftOut(Check check) {
+        check.sentence("those that are 0 left out");
+        NearWords x = new NearWords();
+        check.due("type(0, 0)", 0, x.type(0L, 0L));
+        check.bad("INPUT is empty still", x::add);
+        check.due("the highest and the lowest byte", 2, x.type(0x6100000000000062L, 0L));
+        check.due("between zeros", 4, x.type(0x0000630000000000L, 0x0000000064000000L));
+        check.due("type(0, 0) changes nothing", 4, x.type(0L, 0L));
+        x.add();
+        check.due("the WORD", "abcd", Typist.words(x));
+        Typist.type(x, SIXTY);
+        check.due("type(0, 0) when there is no room", 60, x.type(0L, 0L));
+    }
+
+    private static void bad(Check check) {
+        check.sentence("One that's not 33 .. 126: bad");
         for (int character = 0; character < 256; character++) {
             for (int shift = 0; shift < 64; shift += 8) {
                 NearWords x = new NearWords();
@@ -38,29 +58,63 @@ public final class TypeTest {
                 check.due(what + " second, INPUT", fine ? 4 : 2, x.count(0));
             }
         }
+    }
+
+    private static void badAmongGood(Check check) {
+        check.sentence("One that's not 33 .. 126: one is enough");
         NearWords x = new NearWords();
-        check.bad("-1", () -> x.type(-1L, 0L));
-        check.bad("the least number", () -> x.type(65L, Long.MIN_VALUE));
-        check.bad("the greatest number", () -> x.type(Long.MAX_VALUE, 0L));
-        check.bad("a good byte and a bad one", () -> x.type(0x4120L, 0L));
+        for (int shift = 0; shift < 64; shift += 8) {
+            for (long character : new long[] {1, 32, 127, 128, 255}) {
+                long number = EIGHT & ~(255L << shift) | character << shift;
+                check.bad(character + " at bit " + shift + " first", () -> x.type(number, EIGHT));
+                check.bad(character + " at bit " + shift + " second", () -> x.type(EIGHT, number));
+            }
+        }
+        for (long number : new long[] {-1L, Long.MIN_VALUE, Long.MAX_VALUE, Integer.MIN_VALUE, 0x80L, 0x8000000041414141L}) {
+            check.bad(number + " first", () -> x.type(number, 0L));
+            check.bad(number + " second", () -> x.type(65L, number));
+        }
         check.due("nothing was typed", 0, x.count(0));
     }
 
-    private static void limit(Check check) {
+    private static void full(Check check) {
+        check.sentence("more than 60 in all: FULL");
+        for (int there = 40; there <= 60; there++) {
+            for (int more = 0; more <= 16; more++) {
+                NearWords x = new NearWords();
+                Typist.type(x, SIXTY.substring(0, there));
+                long first = Typist.number("ABCDEFGH".substring(0, Math.min(more, 8)));
+                long second = Typist.number("IJKLMNOP".substring(0, Math.max(0, more - 8)));
+                String want = there + more <= 60 ? Integer.toString(there + more) : Check.FULL;
+                check.due(more + " behind " + there, want, Check.outcome(() -> x.type(first, second)));
+                check.due("INPUT then", there + more <= 60 ? there + more : there, x.count(0));
+            }
+        }
         NearWords x = new NearWords();
-        check.due("60 CHARACTERS", 60, Typist.type(x, SIXTY));
+        Typist.type(x, SIXTY);
         check.full("one more", () -> x.type(0L, 97L));
-        check.due("none more", 60, x.type(0L, 0L));
-        check.bad("bad goes before FULL", () -> x.type(97L, 32L));
-        check.bad("bad alone when INPUT is full", () -> x.type(127L, 0L));
-        check.due("INPUT is as it was", 60, x.count(0));
         x.add();
-        Typist.like(x, "*");
-        check.due("the word", SIXTY + "/0", Typist.result(x));
+        check.due("the WORD", SIXTY, Typist.words(x));
+    }
 
-        Typist.type(x, SIXTY.substring(0, 45));
-        check.full("16 behind 45", () -> x.type(Typist.number("ABCDEFGH"), Typist.number("IJKLMNOP")));
-        check.due("none of them was typed", 45, x.count(0));
-        check.due("15 behind 45", 60, x.type(Typist.number("ABCDEFG"), Typist.number("IJKLMNOP")));
+    private static void badBeforeFull(Check check) {
+        check.sentence("One that's not 33 .. 126: bad; more than 60 in all: FULL: both");
+        NearWords x = new NearWords();
+        Typist.type(x, SIXTY);
+        check.bad("a bad byte alone", () -> x.type(127L, 0L));
+        check.bad("a bad byte behind a good one", () -> x.type(97L, 32L));
+        check.bad("a bad byte before a good one", () -> x.type(32L, 97L));
+        check.due("INPUT is as it was", 60, x.count(0));
+    }
+
+    private static void length(Check check) {
+        check.sentence("Answers its length.");
+        NearWords x = new NearWords();
+        check.due("1", 1, x.type(97L, 0L));
+        check.due("3", 3, x.type(98L, 99L));
+        check.due("19", 19, x.type(EIGHT, EIGHT));
+        check.due("60", 60, Typist.type(x, SIXTY.substring(19)));
+        x.before();
+        check.due("a new INPUT", 1, x.type(0L, 65L));
     }
 }

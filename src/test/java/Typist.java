@@ -17,12 +17,21 @@ final class Typist {
         return number;
     }
 
-    static int type(NearWords x, String text) {
-        int length = x.count(0);
+    /** The two numbers of each call that types the text. */
+    static List<long[]> numbers(String text) {
+        List<long[]> numbers = new ArrayList<>();
         for (int from = 0; from < text.length(); from += IN_ONE_CALL) {
             String part = text.substring(from, Math.min(text.length(), from + IN_ONE_CALL));
-            String first = part.substring(0, Math.min(part.length(), IN_ONE_NUMBER));
-            length = x.type(number(first), number(part.substring(first.length())));
+            int cut = Math.min(part.length(), IN_ONE_NUMBER);
+            numbers.add(new long[] {number(part.substring(0, cut)), number(part.substring(cut))});
+        }
+        return numbers;
+    }
+
+    static int type(NearWords x, String text) {
+        int length = x.count(0);
+        for (long[] pair : numbers(text)) {
+            length = x.type(pair[0], pair[1]);
         }
         return length;
     }
@@ -33,6 +42,28 @@ final class Typist {
             add(x, word);
         }
         return x;
+    }
+
+    /** 1000 WORDS, w0 .. w999, which come in another order than theirs. */
+    static NearWords withThousandWords() {
+        NearWords x = new NearWords();
+        for (int i = 0; i < 1000; i++) {
+            add(x, "w" + i * 7 % 1000);
+        }
+        return x;
+    }
+
+    /** WORDS of 60 CHARACTERS, 000xx.. and so on, as many as asked for. */
+    static NearWords withLongWords(int many) {
+        NearWords x = new NearWords();
+        for (int i = 0; i < many; i++) {
+            add(x, longWord(i));
+        }
+        return x;
+    }
+
+    static String longWord(int i) {
+        return String.format("%03d", i) + "x".repeat(57);
     }
 
     static int add(NearWords x, String word) {
@@ -64,12 +95,35 @@ final class Typist {
     static String result(NearWords x) {
         List<String> found = new ArrayList<>();
         for (int i = 0; i < x.count(3); i++) {
-            StringBuilder word = new StringBuilder();
-            for (int k = 0; x.letter(i, k) != 0; k++) {
-                word.append((char) x.letter(i, k));
-            }
-            found.add(word + "/" + x.distance(i));
+            found.add(word(x, i) + "/" + x.distance(i));
         }
         return String.join(" ", found);
+    }
+
+    /** The first 50 WORDS as a text. INPUT has to be empty, and RESULT is another one then. */
+    static String words(NearWords x) {
+        like(x, "*");
+        List<String> words = new ArrayList<>();
+        for (int i = 0; i < x.count(3); i++) {
+            words.add(word(x, i));
+        }
+        return String.join(" ", words);
+    }
+
+    /** All that can be seen without a change: the five counts and RESULT. */
+    static String seen(NearWords x) {
+        StringBuilder seen = new StringBuilder();
+        for (int what = 0; what <= 4; what++) {
+            seen.append(x.count(what)).append(' ');
+        }
+        return seen.append(result(x)).toString();
+    }
+
+    private static String word(NearWords x, int i) {
+        StringBuilder word = new StringBuilder();
+        for (int k = 0; x.letter(i, k) != 0; k++) {
+            word.append((char) x.letter(i, k));
+        }
+        return word.toString();
     }
 }
