@@ -36,6 +36,23 @@ final class Typist {
         return length;
     }
 
+    /** All rows of 1 .. longest of these CHARACTERS. */
+    static List<String> rows(String characters, int longest) {
+        List<String> rows = new ArrayList<>();
+        List<String> last = List.of("");
+        for (int length = 1; length <= longest; length++) {
+            List<String> longer = new ArrayList<>();
+            for (String row : last) {
+                for (char c : characters.toCharArray()) {
+                    longer.add(row + c);
+                }
+            }
+            rows.addAll(longer);
+            last = longer;
+        }
+        return rows;
+    }
+
     static NearWords with(String... words) {
         NearWords x = new NearWords();
         for (String word : words) {
